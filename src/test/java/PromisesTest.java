@@ -142,6 +142,19 @@ public final class PromisesTest {
         c.due("5 he took none", x.about(0, 5), 0);
         c.due("5 he got none", x.about(0, 6), 0);
         c.due("5 he is beside nobody", x.hearing(0), 0);
+        kindsOfAnotherPiece();
+    }
+
+    private static void kindsOfAnotherPiece() {
+        QuartetNods x = Checks.of("l2;5", DREAMER, 9, SNORER, 9, SNORER, 8, SNORER, 7);
+        Checks.type(x, "l2;5");
+        x.piece();
+        x.player(PLAYER, 6);
+        x.player(PLAYER, 4);
+        all("5 none of those dreams", x, 3, 0, 1);
+        x.tire(1, 5);
+        x.play();
+        all("5 none of those snores", x, 1, 5, 4);
     }
 
     private static void bar() {
@@ -165,6 +178,7 @@ public final class PromisesTest {
         y.play();
         c.due("6 from BAR 0, as TIRED now", y.bar(0, 2), 1);
         y.tell(1, 3);
+        c.due("6 TOLD once", y.bar(1, 3), 3);
         y.tell(0, 2);
         y.tell(1, 4);
         c.due("6 TOLD last of 1", y.bar(1, 3), 4);
@@ -213,6 +227,9 @@ public final class PromisesTest {
         all("8 there is no next", x, 4, 0, 0, 0);
         x.again();
         all("8 took stays", x, 5, 0, 3, 1);
+        QuartetNods y = Checks.of("l2;9", PLAYER, 5, PLAYER, 5);
+        y.play();
+        all("8 both took one", y, 5, 1, 1);
         x.coffee(1);
         x.coffee(1);
         x.coffee(2);
@@ -363,6 +380,9 @@ public final class PromisesTest {
             c.due("14 what " + what, x.hearing(what), OUTSIDE);
             c.due("14 OUTSIDE ahead of STATE", new QuartetNods().hearing(what), OUTSIDE);
         }
+        QuartetNods z = Checks.of("r2,l1;9", PLAYER, 0);
+        c.due("14 one is lost", z.hearing(0), 1);
+        c.due("14 in BAR 0", z.hearing(1), 0);
         QuartetNods y = Checks.of("a4,l4;5", VIRTUOSO, 0);
         c.due("14 nothing is lost", y.hearing(0), 0);
         c.due("14 in no BAR", y.hearing(1), NONE);
@@ -375,6 +395,8 @@ public final class PromisesTest {
                 3, NONE, NONE, 0, 0, 0, NONE);
         c.due("15 nothing changes", x.about(0, 1), 0);
         c.due("15 no coffee was given", x.count(7), 0);
+        x = Checks.of("s1,s1,s1,s1,s1,s1;1", PLAYER, 4);
+        row("15 ahead of all bars", new int[] {x.cups(0), x.cups(10), x.cups(15)}, 6, 0, 0);
         x = Checks.of("r1,l1;5", PLAYER, 4);
         row("15 nobody first", new int[] {x.cups(0), x.cups(10), x.cups(11), x.cups(12), x.cups(15)}, 1, NONE, 0, NONE, NONE);
         x = Checks.of("l1;5", PLAYER, 5, PLAYER, 5);
@@ -507,6 +529,16 @@ public final class PromisesTest {
         c.due("20 of like ones the least", x.listen(0), 0);
         x.tell(1, 2);
         c.due("20 by nothing such", x.listen(0), NONE);
+        // asleep with 1 or more: BAR 0 leaves 1 or 9; behind the accent 4 and more are: BAR 1 leaves 4 or 6
+        QuartetNods y = Checks.of("a4,l4;1", VIRTUOSO, 0);
+        c.due("20 by four that are lost", y.listen(0), 1);
+        y.tell(0, 4);
+        // of 1 to 9, BAR 1 leaves 3 or 6
+        c.due("20 guess", y.guess(0), 0b1111111110);
+        c.due("20 by four that are lost, again", y.listen(0), 1);
+        QuartetNods z = Checks.of("l4,r4;9", VIRTUOSO, 0);
+        // BAR 0 leaves 9 or 1, BAR 1 leaves 9 (0 to 8 stay) or 1 (9 is 8 then): so 10
+        c.due("20 the least tired and the most", z.listen(0), 0);
         for (int player : new int[] {1, -1, MIN, MAX}) {
             c.due("20 listen(" + player + ")", x.listen(player), UNKNOWN);
         }
@@ -534,6 +566,9 @@ public final class PromisesTest {
         c.due("21 the SEED", x.draughts(30, 0, 2), seed);
         c.due("21 the greatest SEED", x.draughts(1, MAX, 2), next(next(MAX)));
         c.due("21 tired stays", x.about(1, 1), 8);
+        // coffee ahead of BAR 0 alone: 3 is 0 and plays it, and is 3 again then
+        c.due("21 one coffee", Checks.of("s1,s3;3", PLAYER, 3).draughts(1, 0, 1), 1);
+        c.due("21 bar by bar", Checks.of("s1,s3;3", PLAYER, 3).draughts(1, 0, 0), 3);
         c.due("21 no coffee was given", x.count(7), 0);
         c.due("21 nothing was played", x.count(5) + x.count(6), 0);
         for (int times : new int[] {0, 31, -1, MIN, MAX}) {
@@ -597,11 +632,34 @@ public final class PromisesTest {
         c.due("23 a player comes", x.player(PLAYER, 5), 2);
         c.due("23 he took none", x.about(2, 5), 0);
         c.due("23 he got none", x.about(2, 6), 0);
+        kindsOfThoseSince();
         Checks.type(x, "2;5");
         c.due("23 another piece", x.piece(), 1);
         c.due("23 there is another piece since", x.restore(), STATE);
         c.due("23 an image of it", x.image(), 0);
         c.due("23 restore", x.restore(), 0);
+    }
+
+    private static void kindsOfThoseSince() {
+        QuartetNods x = Checks.of("l3;5", PLAYER, 4);
+        x.image();
+        x.player(DREAMER, 9);
+        x.player(SNORER, 9);
+        c.due("23 the dreamer is heard", x.count(4), 2);
+        x.restore();
+        c.due("23 he is gone", x.count(4), 1);
+        x.player(PLAYER, 9);
+        x.player(PLAYER, 9);
+        all("23 another one doesn't dream", x, 3, 1, 0, 0);
+        x.play();
+        all("23 another one doesn't snore", x, 1, 4, 8, 8);
+        QuartetNods y = Checks.of("l3;5", PLAYER, 4, DREAMER, 9, SNORER, 9);
+        y.image();
+        y.play();
+        y.restore();
+        all("23 the dreamer stays one", y, 3, 1, 1, 0);
+        y.play();
+        all("23 the snorer stays one", y, 1, 4, 8, 8);
     }
 
     private static void count() {

@@ -313,6 +313,56 @@ public final class EdgesTest {
         c.due("5 no bar of the other", x.bar(1, 0), UNKNOWN);
         c.due("5 no player of the other", x.about(0, 0), UNKNOWN);
         c.due("5 read twice", x.count(10), 2);
+        withAllThatWas();
+    }
+
+    /** All was full: behind another PIECE it must answer as one that is new. */
+    private static void withAllThatWas() {
+        QuartetNods x = Checks.of(SIX, DREAMER, 9, SNORER, 9, DREAMER, 9, SNORER, 9);
+        for (int i = 0; i < 6; i++) {
+            x.tell(i, 4);
+            x.coffee(i % 4);
+            x.play();
+            x.tire(i % 4, 9);
+        }
+        x.image();
+        QuartetNods twin = new QuartetNods();
+        for (QuartetNods one : new QuartetNods[] {x, twin}) {
+            Checks.type(one, "l2,r3;5");
+            c.due("5 another one", one.piece(), 2);
+        }
+        asTwins("5 with all that was", x, twin);
+        for (int number = 0; number < 4; number++) {
+            int at = number;
+            for (QuartetNods one : new QuartetNods[] {x, twin}) {
+                c.due("5 a player is new", one.player(at % 2, 4 + at), at);
+            }
+            asTwins("5 with all that was, " + number, x, twin);
+        }
+        for (int bar = 0; bar < 2; bar++) {
+            c.due("5 play", x.play(), twin.play());
+            asTwins("5 with all that was, behind BAR " + bar, x, twin);
+        }
+        c.due("5 no IMAGE", x.restore(), STATE);
+    }
+
+    /** All that can be asked, but how often PIECES were read, cups() and order() done. */
+    private static void asTwins(String of, QuartetNods x, QuartetNods twin) {
+        for (int what = 0; what <= 9; what++) {
+            c.due(of + ", count(" + what + ")", x.count(what), twin.count(what));
+        }
+        for (int bar = 0; bar <= 6; bar++) {
+            for (int what = 0; what <= 3; what++) {
+                c.due(of + ", bar(" + bar + ", " + what + ")", x.bar(bar, what), twin.bar(bar, what));
+            }
+        }
+        for (int player = 0; player <= 4; player++) {
+            for (int what = 0; what <= 6; what++) {
+                c.due(of + ", about(" + player + ", " + what + ")", x.about(player, what), twin.about(player, what));
+            }
+            c.due(of + ", guess(" + player + ")", x.guess(player), twin.guess(player));
+            c.due(of + ", listen(" + player + ")", x.listen(player), twin.listen(player));
+        }
     }
 
     private static void bar() {
@@ -593,6 +643,10 @@ public final class EdgesTest {
         c.due("20 one is left: of like ones the least", x.listen(0), 0);
         x.tell(0, 0);
         c.due("20 none is left", x.listen(0), NONE);
+        x.forget();
+        x.tell(2, 0);
+        // BAR 0 leaves 0, or 1 and 2; BAR 1 leaves 0 and 1, or 2
+        c.due("20 by 0 he could be TIRED, too", x.listen(0), 0);
         c.due("20 one BAR", Checks.of("l1;5", PLAYER, 0).listen(0), 0);
         c.due("20 no BAR tells any from another", Checks.of("l1,l1,l1;5", VIRTUOSO, 0, PLAYER, 9).listen(1), 0);
         // BAR 0 leaves five or five (4 are LOST, or none), BAR 1 two (0 and 1 are 3 and 4 then) or eight
@@ -705,6 +759,48 @@ public final class EdgesTest {
         c.due("23 nobody came with it", x.count(2), 0);
         c.due("23 an IMAGE of the other", x.image(), 0);
         c.due("23 is one", x.restore(), 0);
+        fromEmptyAndFromFull();
+    }
+
+    /** An IMAGE of much, restored when all is empty, and one of nothing, restored when all is full. */
+    private static void fromEmptyAndFromFull() {
+        QuartetNods x = new QuartetNods(), twin = new QuartetNods();
+        for (QuartetNods one : new QuartetNods[] {x, twin}) {
+            Checks.type(one, SIX);
+            one.piece();
+        }
+        x.image();
+        fill(x);
+        c.due("23 from full to nothing", x.restore(), 0);
+        asTwins("23 from full to nothing", x, twin);
+        for (QuartetNods one : new QuartetNods[] {x, twin}) {
+            one.player(SNORER, 6);
+            one.player(PLAYER, 9);
+            one.tell(5, 2);
+            one.coffee(1);
+            one.play();
+        }
+        asTwins("23 they are alike", x, twin);
+        x.image();
+        x.forget();
+        x.tire(0, 9);
+        x.coffee(1);
+        x.play();
+        x.play();
+        fill(x);
+        c.due("23 back to some", x.restore(), 1);
+        asTwins("23 back to some", x, twin);
+        c.due("23 play", x.play(), twin.play());
+        asTwins("23 back to some, and on", x, twin);
+    }
+
+    private static void fill(QuartetNods x) {
+        for (int i = 0; i < 6; i++) {
+            x.player(i % 2 == 0 ? DREAMER : SNORER, 9);
+            x.tell(i, 4);
+            x.coffee(i % 4);
+            x.play();
+        }
     }
 
     private static void count() {

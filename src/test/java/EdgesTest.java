@@ -16,6 +16,7 @@ public final class EdgesTest {
         partsOneToFour();
         limitOneToNine();
         awakeIsLessThanLimit();
+        fourOfThemAwake();
         besideHasNoWrapAround();
         dreamersAtTheEdge();
         partsAsLongAsThereAreAny();
@@ -125,6 +126,12 @@ public final class EdgesTest {
                 c.due(of + ", LOST", x.hearing(0), 1 - awake);
             }
         }
+    }
+
+    private static void fourOfThemAwake() {
+        row("1 all four are AWAKE", about(Checks.of("l1;9", PLAYER, 8, CELLO, 8, SNORER, 8, VIRTUOSO, 0), 2), 1, 1, 1, 1);
+        row("1 the first and the last", about(Checks.of("l1;1", PLAYER, 0, CELLO, 1, SNORER, 9, VIRTUOSO, 0), 2), 1, 0, 0, 1);
+        row("1 none of four", about(Checks.of("l1;1", PLAYER, 1, CELLO, 1, SNORER, 9, VIRTUOSO, 1), 2), 0, 0, 0, 0);
     }
 
     private static void besideHasNoWrapAround() {
@@ -524,6 +531,7 @@ public final class EdgesTest {
         row("15 the last one", ofCups(Checks.of("l1;1", PLAYER, 9, PLAYER, 9, PLAYER, 9, PLAYER, 4)), 1, 3, NONE, NONE, NONE, NONE, NONE);
         row("15 NONE ahead of BARS that aren't there", ofCups(Checks.of("l1;5", PLAYER, 8)), 1, 0, NONE, NONE, NONE, NONE, NONE);
         row("15 ahead of the last rather", ofCups(Checks.of("l1,l2;5", PLAYER, 8, PLAYER, 4)), 1, NONE, 0, NONE, NONE, NONE, NONE);
+        row("15 for one TIRED by 1", ofCups(Checks.of("l1;1", PLAYER, 1)), 1, 0, NONE, NONE, NONE, NONE, NONE);
         // nobody, 0, 1 were the first by numbers
         row("15 fewer rather than the first by numbers", ofCups(Checks.of("r1,r1,l3;5", CELLO, 2, CELLO, 3)), 1, 1, NONE, NONE, NONE, NONE, NONE);
     }
@@ -667,6 +675,10 @@ public final class EdgesTest {
         played.play();
         c.due("21 behind the last BAR, from BAR 0 all the same", played.draughts(1, 0, 0), 3);
         c.due("21 again from how TIRED all are now", played.draughts(30, 5, 0), 90);
+        // SEED 1: no COFFEE ahead of either; behind the first rest 2 is 4, and not AWAKE
+        QuartetNods tires = Checks.of("r1,r1;4", PLAYER, 2);
+        c.due("21 no COFFEE", tires.draughts(1, 1, 1), 0);
+        c.due("21 from BAR to BAR", tires.draughts(1, 1, 0), 1);
     }
 
     /** COFFEES and the SEED, by numbers without bounds. */
@@ -847,6 +859,10 @@ public final class EdgesTest {
         x.forget();
         x.tell(3, x.bar(3, 2));
         c.due("25 one TOLD, NONE else", x.digest(), digestOf(x, "~~~~~~~~~~~~~~~~~~~~~~"));
+        x = Checks.of("r4,r4,r4,r4,r4,r4;9", VIRTUOSO, 0);
+        c.due("25 the first BAR with such is the last", x.digest(), digestOf(x, ""));
+        x = Checks.of("l4,l4;9", VIRTUOSO, 0);
+        c.due("25 there is none with such", x.digest(), digestOf(x, ""));
     }
 
     /** By numbers without bounds; longValue wraps once, in the end. */

@@ -1,9 +1,12 @@
+import java.lang.reflect.Field;
 import java.lang.reflect.Member;
 import java.lang.reflect.Method;
 import java.lang.reflect.Modifier;
 import java.nio.file.Files;
 import java.nio.file.Path;
+import java.util.ArrayList;
 import java.util.Arrays;
+import java.util.List;
 import java.util.Set;
 import java.util.TreeSet;
 import java.util.regex.Matcher;
@@ -33,6 +36,9 @@ public final class LanguageTest {
         }
         face();
         noNameTwice();
+        sizes();
+        shortMethods(code.split("\\n"));
+        madeInConstructors(code.split("\\n"));
         c.end();
     }
 
@@ -73,6 +79,58 @@ public final class LanguageTest {
                 boolean ofFace = FACE.toString().contains(" " + m.getName() + "(");
                 c.due(inside + "." + m.getName() + " is named as one of the face", ofFace ? 1 : 0, 0);
             }
+        }
+    }
+
+    private static List<Class<?>> classes() {
+        List<Class<?>> all = new ArrayList<>(Arrays.asList(QuartetNods.class.getDeclaredClasses()));
+        all.add(QuartetNods.class);
+        return all;
+    }
+
+    /** Rules 5 and 11. */
+    private static void sizes() {
+        c.due("more than 12 classes", classes().size() > 12 ? 1 : 0, 0);
+        for (Class<?> k : classes()) {
+            int fields = 0;
+            for (Field f : k.getDeclaredFields()) {
+                boolean isStatic = Modifier.isStatic(f.getModifiers());
+                fields += isStatic ? 0 : 1;
+                c.due(f + " is static and not final", isStatic && !Modifier.isFinal(f.getModifiers()) ? 1 : 0, 0);
+            }
+            c.due(k + " has more than 20 fields", fields > 20 ? 1 : 0, 0);
+            for (Method m : k.getDeclaredMethods()) {
+                c.due(m + " takes more than seven", m.getParameterCount() > 7 ? 1 : 0, 0);
+            }
+        }
+    }
+
+    /** Rule 11: a method ends with the next brace that stands as far in as its head does. */
+    private static void shortMethods(String[] lines) {
+        Pattern head = Pattern.compile("^( +)(?:[\\w\\[\\]]+ )*\\w+\\([^;=]*\\) \\{$");
+        int seen = 0;
+        for (int i = 0; i < lines.length; i++) {
+            Matcher found = head.matcher(lines[i]);
+            if (found.find() && !lines[i].matches(" *(if|for|while|switch) .*")) {
+                int last = i;
+                while (last < lines.length && !lines[last].equals(found.group(1) + "}")) {
+                    last++;
+                }
+                seen++;
+                c.due("longer than 60 lines: " + lines[i].trim(), last - i > 60 ? 1 : 0, 0);
+            }
+        }
+        c.due("methods were seen", seen > 24 ? 1 : 0, 1);
+    }
+
+    /** Rule 12, and the one room of a run: what is made is made with the object, so that no call makes anything. */
+    private static void madeInConstructors(String[] lines) {
+        int constructor = Arrays.asList(lines).indexOf("    public QuartetNods() {");
+        int end = Arrays.asList(lines).subList(Math.max(constructor, 0), lines.length).indexOf("    }") + constructor;
+        for (int i = 0; i < lines.length; i++) {
+            boolean makes = lines[i].matches(".*(\\bnew\\b|\\bclone\\(|\\bcopyOf|\\bsubstring\\(|\\bvalues\\().*");
+            boolean withObject = i > constructor && i < end || lines[i].matches(" +(private )?final [\\w\\[\\]]+ \\w+ = new .*");
+            c.due("a call makes something: " + lines[i].trim(), makes && !withObject ? 1 : 0, 0);
         }
     }
 }
